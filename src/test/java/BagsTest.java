@@ -9,6 +9,7 @@ public final class BagsTest {
         audit();
         auditThrows();
         worstBag();
+        smallestPart();
         Check.end();
     }
 
@@ -108,6 +109,20 @@ public final class BagsTest {
         Check.thrown("counted is checked second", IllegalArgumentException.class, () -> x.audit(0, 201));
         Check.due("undo", x.undo(), left + 1);
         Check.due("audited no more", x.audit(0, 0), -3);
+    }
+
+    private static void smallestPart() {
+        CoinSorter x = Check.machine("type 1 1500 50 1000 100;bin 0 3;");
+        x.insert(1500, 1000);
+        x.step();
+        x.changeBag(0);
+        x.audit(0, 2);
+        Check.due("a part of 1", x.worstBag(), 0);
+        Check.due("discrepancy", x.discrepancy(), 1);
+        x.undo();
+        x.audit(0, 0);
+        Check.due("a part of -1", x.worstBag(), 0);
+        Check.due("discrepancy", x.discrepancy(), -1);
     }
 
     private static void worstBag() {

@@ -17,6 +17,8 @@ public final class ConfigurationTest {
         tooMany();
         lowestOffsetWins();
         successEmptiesTheMachine();
+        parseAfterParse();
+        emptiedRowsFillAnew();
         errorLeavesAllElse();
         unsetStatements();
         data();
@@ -140,6 +142,16 @@ public final class ConfigurationTest {
         error("margins 5;", 0, SYNTAX);
         error("abcdef", 0, SYNTAX);
         error("gatex 2000;", 0, SYNTAX);
+        error("gatez 2000;", 0, SYNTAX);
+        error("agate 2000;", 0, SYNTAX);
+        error("hate 2000;", 0, SYNTAX);
+        error("gase 2000;", 0, SYNTAX);
+        error("gatf 2000;", 0, SYNTAX);
+        error("hype 1 2000 50 1000 100;", 0, SYNTAX);
+        error("make 2000 50 1000 100;", 0, SYNTAX);
+        error(TYPE + "pin 0 5;", 24, SYNTAX);
+        error("coop 5;", 0, SYNTAX);
+        error("nargin 5;", 0, SYNTAX);
         error("gat 2000;", 0, SYNTAX);
         error("gate 2000x;", 9, SYNTAX);
         error("Gate 2000;", 0, SYNTAX);
@@ -283,6 +295,53 @@ public final class ConfigurationTest {
         Check.due("restoreSnapshot(0)", x.restoreSnapshot(0), false);
         Check.due("restoreSnapshot(1)", x.restoreSnapshot(1), false);
         Check.due("undo", x.undo(), CoinSorter.ABSENT);
+    }
+
+    /** Good and bad texts by turns: nothing of an earlier one is left. */
+    private static void parseAfterParse() {
+        CoinSorter x = new CoinSorter();
+        String large = TYPE.repeat(8) + FAKE.repeat(4) + "bin 7 9;".repeat(8) + "gate 1500;loop 20;margin 1;";
+        for (int round = 0; round < 4; round++) {
+            Check.due("a large text", Check.load(x, large), 8);
+            Check.due("fakeCount", x.fakeCount(), 4);
+            Check.due("binCount", x.binCount(), 8);
+            Check.due("an error at the end", Check.load(x, large + "!"), -2 - (8 * large.length() + SYNTAX));
+            Check.due("a repeated gate", Check.load(x, "gate 2000;gate 2000;"), -2 - (8 * 10 + REPEATED));
+            Check.due("a small text", Check.load(x, "type 3 3000 20 4000 40;bin 0 1;fake 1000 1 1 1;"), 1);
+            Check.due("fakeCount", x.fakeCount(), 1);
+            Check.due("binCount", x.binCount(), 1);
+            Check.due("typeValue", x.typeValue(0), 3);
+            Check.due("score", x.score(0, 3010, 4010), 500 + 250);
+            Check.due("a fake", x.classify(1000, 1), CoinSorter.COUNTERFEIT);
+            Check.due("bagSize", x.bagSize(0), 1);
+            Check.due("margin", x.margin(), 100);
+            Check.insert(x, 9, 3000, 4000);
+            Check.due("gate and loop are unset", x.run(100), 6);
+            Check.due("nothing", Check.load(x, ""), 0);
+            Check.due("fakeCount", x.fakeCount(), 0);
+            Check.due("binCount", x.binCount(), 0);
+            Check.due("binCoins without bins", x.binCoins(0), CoinSorter.INVALID);
+            Check.due("typeValue without types", x.typeValue(0), CoinSorter.INVALID);
+            Check.due("classify without types", x.classify(3000, 4000), CoinSorter.UNKNOWN);
+        }
+    }
+
+    /** After a parse, coins, bags and samples are counted from none. */
+    private static void emptiedRowsFillAnew() {
+        CoinSorter x = new CoinSorter();
+        for (int round = 1; round <= 3; round++) {
+            Check.load(x, TYPE + "bin 0 " + round + ";");
+            Check.due("loopSize", x.loopSize(), 0);
+            Check.insert(x, round + 2, 2000, 1000);
+            x.run(100);
+            Check.due("loopSize", x.loopSize(), 2);
+            Check.due("changeBag", x.changeBag(0), 0);
+            Check.due("bagCoins", x.bagCoins(0), round);
+            Check.due("worstBag", x.worstBag(), CoinSorter.ABSENT);
+            Check.due("audit", x.audit(0, 10), 10 - round);
+            Check.due("addSample", x.addSample(2000, 1000, round % 2 - 1), 1);
+            Check.due("sampleCost", x.sampleCost(0), round % 2 == 0 ? 10 : 0);
+        }
     }
 
     private static void errorLeavesAllElse() {

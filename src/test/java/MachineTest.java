@@ -20,6 +20,7 @@ public final class MachineTest {
         runIsOneChange();
         records();
         binValue();
+        measurementsAreKept();
         wrongIndexes();
         Check.end();
     }
@@ -291,6 +292,29 @@ public final class MachineTest {
         Check.due("binValue", x.binValue(), 4 * 300 + 3 * 20 + 2);
         x.changeBag(2);
         Check.due("without sealed bags", x.binValue(), 2 * 300 + 3 * 20 + 2);
+    }
+
+    /** A coin in the hopper has still the measurements that it was inserted with. */
+    private static void measurementsAreKept() {
+        CoinSorter x = Check.machine("type 1 4000 1 9999 1;type 1 1000 1 0 1;type 1 1000 1 9999 1;type 1 4000 1 0 1;"
+            + "bin 0 9;bin 1 9;bin 2 9;bin 3 9;");
+        int[][] coins = {{4000, 9999}, {1000, 0}, {1000, 9999}, {4000, 0}, {3999, 9998}, {1001, 1}, {999, 9998}, {3999, 1}};
+        for (int[] coin : coins) {
+            x.insert(coin[0], coin[1]);
+        }
+        for (int i = 0; i < coins.length; i++) {
+            Check.due("coin " + i, x.step(), i % 4);
+        }
+        x.insert(3998, 9999);
+        x.insert(1000, 2);
+        Check.due("too small", x.step(), UNKNOWN);
+        Check.due("another alloy", x.step(), UNKNOWN);
+        x.insert(1, 0);
+        x.insert(1, 9999);
+        x.calibrate(1, 1, 0);
+        Check.due("the least", x.step(), 1);
+        x.calibrate(2, 1, 9999);
+        Check.due("the least diameter, the highest alloy", x.step(), 2);
     }
 
     private static void wrongIndexes() {

@@ -10,7 +10,11 @@ public final class SamplesTest {
         bestMargin();
         bestMarginAtTheEnd();
         bestMarginIsTheLowest();
+        bestMarginOfEqualScores();
+        bestMarginByOne();
+        neighbouringGaps();
         bestMarginOfAll();
+        undoneSample();
         offsets();
         Check.end();
     }
@@ -121,6 +125,56 @@ public final class SamplesTest {
         y.addSample(2030, 1000, 0);
         y.addSample(2030, 1000, 0);
         Check.due("the same cost at 101 and 401, told in another order", y.bestMargin(), 101);
+    }
+
+    private static void bestMarginOfEqualScores() {
+        CoinSorter x = Check.machine(CONFIG);
+        x.addSample(2050, 1000, -1);
+        Check.due("unsure from margin 1 on", x.bestMargin(), 1);
+        x.undo();
+        x.addSample(2050, 1000, 1);
+        Check.due("another type at margin 0", x.bestMargin(), 1);
+        x.undo();
+        x.addSample(2050, 1000, 0);
+        Check.due("the lowest number at margin 0", x.bestMargin(), 0);
+    }
+
+    /** One wrong coin against so many right ones with the same gap. */
+    private static void bestMarginByOne() {
+        CoinSorter x = Check.machine(CONFIG);
+        x.addSample(2040, 1000, 1);
+        for (int right = 1; right <= 6; right++) {
+            x.addSample(2040, 1000, 0);
+            Check.due(right + " right coins", x.bestMargin(), right < 4 ? 201 : 0);
+        }
+    }
+
+    private static void neighbouringGaps() {
+        CoinSorter x = Check.machine("type 1 2000 100 1000 70;type 2 2100 100 1000 100;");
+        // 2029, 1006: scores of 290 + 86 and 710 + 60; 2030, 1001: scores of 300 + 15 and 700 + 10
+        x.addSample(2029, 1006, -1);
+        Check.due("a gap of 394", x.bestMargin(), 395);
+        for (int i = 0; i < 10; i++) {
+            x.addSample(2030, 1001, 0);
+        }
+        Check.due("ten coins with a gap of 395", x.bestMargin(), 395);
+        Check.due("none of them is unsure", x.sampleCost(395), 0);
+        Check.due("all of them are unsure", x.sampleCost(396), 10);
+    }
+
+    private static void undoneSample() {
+        CoinSorter x = Check.machine(CONFIG);
+        x.addSample(2000, 1000, 0);
+        x.addSample(2000, 1000, 1);
+        x.undo();
+        x.undo();
+        Check.due("addSample", x.addSample(2000, 1000, -1), 1);
+        Check.due("the label of now", x.sampleCost(0), 10);
+        x.saveSnapshot(0);
+        x.addSample(2000, 1000, 1);
+        x.restoreSnapshot(0);
+        Check.due("addSample", x.addSample(2000, 1000, 0), 2);
+        Check.due("the labels of now", x.sampleCost(0), 10);
     }
 
     /** Against the plain search over all margins. */
