@@ -21,6 +21,14 @@ final class Check {
         due(call, got ? 1 : 0, want ? 1 : 0);
     }
 
+    static int asked() {
+        return asked;
+    }
+
+    static int wrong() {
+        return wrong;
+    }
+
     static void thrown(String call, Class<? extends RuntimeException> want, Runnable body) {
         Class<?> got = null;
         try {
