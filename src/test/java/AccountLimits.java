@@ -461,6 +461,31 @@ final class AccountLimits {
         z.addSample(2000, 1000, -1);
         Check.due("no margin is above a difference of 2000", z.bestMargin(), 0);
         Twins.same("bestMargin", Machines::busy, CoinSorter::bestMargin);
+        leastByOne();
+        neighbours();
+    }
+
+    /** A wrong coin that costs 4 less above its difference, against so many genuine ones that cost 1 more. */
+    private static void leastByOne() {
+        CoinSorter x = Check.machine(NEIGHBOURS);
+        x.addSample(2040, 1000, 1);
+        for (int genuine = 1; genuine <= 6; genuine++) {
+            x.addSample(2040, 1000, 0);
+            Check.due(genuine + " genuine coins", x.bestMargin(), genuine < 4 ? 201 : 0);
+        }
+    }
+
+    /** Differences of 394 and 395: a margin of 395 is above the first alone. */
+    private static void neighbours() {
+        CoinSorter x = Check.machine("type 1 2000 100 1000 70;type 2 2100 100 1000 100;");
+        x.addSample(2029, 1006, -1);
+        for (int genuine = 0; genuine < 10; genuine++) {
+            x.addSample(2030, 1001, 0);
+        }
+        Check.due("above the first alone", x.bestMargin(), 395);
+        Check.due("its cost", x.sampleCost(395), 0);
+        Check.due("one more", x.sampleCost(396), 10);
+        Check.due("one less", x.sampleCost(394), 10);
     }
 
     private static void lowestMargin() {
@@ -521,8 +546,8 @@ final class AccountLimits {
         Check.due("a new bag", twoBins().changeBag(0), ABSENT);
         refused("changeBag of an empty bag", x -> x.changeBag(2), ABSENT);
         CoinSorter x = Machines.fullBags();
-        Check.due("second, with 30 bags", x.changeBag(1), ABSENT);
-        Twins.same("with 30 bags", Machines::fullBags, y -> Check.due("changeBag", y.changeBag(1), ABSENT));
+        Check.due("second, with 30 bags", x.changeBag(2), ABSENT);
+        Twins.same("with 30 bags", Machines::fullBags, y -> Check.due("changeBag", y.changeBag(2), ABSENT));
         CoinSorter z = twoBins();
         z.insert(1500, 1000);
         z.step();
@@ -692,8 +717,8 @@ final class AccountLimits {
 
     private static void sampleAlloys() {
         CoinSorter x = Check.machine("type 1 2000 1 0 1;type 1 2000 1 9999 1;");
-        Check.due("the least", x.addSample(2000, 0, 0), 1);
-        Check.due("the greatest", x.addSample(2000, 9999, 1), 2);
+        Check.due("the least", x.addSample(1999, 0, 0), 1);
+        Check.due("the greatest", x.addSample(2001, 9999, 1), 2);
         Check.due("below", x.addSample(2000, -1, 0), INVALID);
         Check.due("above", x.addSample(2000, 10000, 1), INVALID);
         Check.due("they are kept", x.sampleCost(0), 0);

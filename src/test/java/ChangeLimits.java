@@ -115,6 +115,11 @@ final class ChangeLimits {
         isOneChange("calibrate to the same offsets", ChangeLimits::threeChanges, x -> x.calibrate(0, 1500, 1000));
         isOneChange("setMargin to the same margin", ChangeLimits::threeChanges, x -> x.setMargin(150));
         isOneChange("an audit that finds no difference", ChangeLimits::threeChanges, x -> x.audit(1, 3));
+        Twins.same("a sample in place of an undone one", ChangeLimits::threeChanges, x -> {
+            x.addSample(2000, 1000, 0);
+            x.undo();
+            x.addSample(2000, 1000, -1);
+        }, x -> x.addSample(2000, 1000, -1));
         Twins.same("looking is no change", ChangeLimits::threeChanges, ChangeLimits::look);
     }
 
@@ -269,10 +274,26 @@ final class ChangeLimits {
         Twins.same("parse(0) on 40 samples", CoinSorter::new, () -> parsedNothing(Machines.fullSamples()));
         Twins.same("parse(0) on a full hopper", CoinSorter::new, () -> parsedNothing(Machines.fullHopper()));
         Twins.same("parse(0) on a stopped machine", CoinSorter::new, () -> parsedNothing(Machines.stopped()));
+        Twins.same("work after parse", () -> worked(Check.machine(OTHER)), () -> worked(loaded(Machines.busyWithoutText(), OTHER)));
+        Twins.same("work after parse", () -> worked(Check.machine(OTHER)), () -> worked(loaded(Machines.jammedWithoutText(), OTHER)));
     }
 
     private static CoinSorter loaded(CoinSorter x, String text) {
         Check.load(x, text);
+        return x;
+    }
+
+    /** Some of everything, on a machine with the other configuration. */
+    private static CoinSorter worked(CoinSorter x) {
+        Check.insert(x, 6, 1500, 1000);
+        x.run(100);
+        x.changeBag(1);
+        x.run(100);
+        x.changeBag(1);
+        Check.due("the first audit", x.audit(1, 9), 6);
+        x.addSample(1500, 1000, -1);
+        x.addSample(1600, 1000, 0);
+        x.insert(1600, 1000);
         return x;
     }
 

@@ -5,7 +5,6 @@ public final class ChangesTest {
 
     public static void main(String[] args) {
         twelveChanges();
-        undoEveryChange();
         failuresAreNoChanges();
         undoThenChange();
         snapshots();
@@ -38,60 +37,6 @@ public final class ChangesTest {
         x.insert(3500, 1000);
         x.insert(2000, 1000);
         return x;
-    }
-
-    /** All that can be seen of an object, as one text. */
-    static String sight(CoinSorter x) {
-        StringBuilder sight = new StringBuilder();
-        int[] singles = {x.typeCount(), x.fakeCount(), x.binCount(), x.diameterOffset(), x.alloyOffset(), x.margin(),
-            x.hopperSize(), x.loopSize(), x.isJammed() ? 1 : 0, x.isStopped() ? 1 : 0, x.stepCount(), x.binValue(),
-            x.bagCount(), x.discrepancy(), x.worstBag(), x.sampleCount(), x.sampleCost(0), x.sampleCost(150), x.bestMargin()};
-        for (int single : singles) {
-            sight.append(single).append(' ');
-        }
-        for (int i = 0; i < 41; i++) {
-            sight.append(x.loopType(i)).append(' ').append(x.record(i)).append(' ').append(x.bagType(i)).append(' ');
-            sight.append(x.bagCoins(i)).append(' ').append(x.binCoins(i)).append(' ').append(x.rejected(i)).append(' ');
-        }
-        return sight.toString();
-    }
-
-    private interface Change {
-        boolean done(CoinSorter x);
-    }
-
-    private static void undone(String name, Change change) {
-        CoinSorter x = busy();
-        x.step();
-        String before = sight(x);
-        Check.due(name + " is done", change.done(x), true);
-        Check.due(name + " shows", sight(x).equals(before), false);
-        Check.due(name + " can be undone", x.undo(), 10);
-        Check.due(name + " is undone", sight(x).equals(before), true);
-    }
-
-    private static void undoEveryChange() {
-        undone("calibrate", x -> x.calibrate(1, 1999, 999));
-        undone("setMargin", x -> x.setMargin(5) == 100);
-        undone("insert", x -> x.insert(5, 5) == 2);
-        undone("clearJam", CoinSorter::clearJam);
-        undone("changeBag", x -> x.changeBag(0) == 0);
-        undone("dispense", x -> x.dispense(8) == 2);
-        undone("addSample", x -> x.addSample(1500, 1000, 1) == 1);
-        CoinSorter x = busy();
-        String before = sight(x);
-        Check.due("step", x.step(), CoinSorter.JAM);
-        Check.due("undo", x.undo(), 9);
-        Check.due("step is undone", sight(x).equals(before), true);
-        Check.due("run", x.run(9), 1);
-        Check.due("undo", x.undo(), 9);
-        Check.due("run is undone", sight(x).equals(before), true);
-        x.changeBag(0);
-        before = sight(x);
-        Check.due("audit", x.audit(0, 9), 7);
-        Check.due("undo", x.undo(), 10);
-        Check.due("audit is undone", sight(x).equals(before), true);
-        Check.due("audit once more", x.audit(0, 9), 7);
     }
 
     private static void failuresAreNoChanges() {
@@ -170,7 +115,7 @@ public final class ChangesTest {
         x.addSample(2000, 1000, -1);
         x.calibrate(0, 1505, 990);
         x.setMargin(77);
-        String before = sight(x);
+        String before = Sight.of(x);
         x.saveSnapshot(1);
         x.clearJam();
         x.run(9);
@@ -181,9 +126,8 @@ public final class ChangesTest {
         x.calibrate(0, 1500, 1000);
         x.setMargin(78);
         x.insert(1500, 1000);
-        Check.due("changed", sight(x).equals(before), false);
         x.restoreSnapshot(1);
-        Check.due("restored", sight(x).equals(before), true);
+        Check.due("restored", Sight.of(x).equals(before), true);
         Check.thrown("the audit is restored", IllegalStateException.class, () -> x.audit(0, 5));
         x.clearJam();
         Check.due("the hopper is restored", x.step(), 1);

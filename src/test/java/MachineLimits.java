@@ -282,6 +282,16 @@ final class MachineLimits {
         Check.due("a difference of 1980", y.classify(2001, 1000), UNSURE);
         y.setMargin(1980);
         Check.due("a difference of 1980, no less than the margin", y.classify(2001, 1000), 0);
+        // scores at 2001: 590, 10 and 90, in each order
+        String[] types = {"type 1 2060 100 1000 100;", "type 1 2000 100 1000 100;", "type 1 2010 100 1000 100;"};
+        int[][] orders = {{0, 1, 2}, {0, 2, 1}, {1, 0, 2}, {1, 2, 0}, {2, 0, 1}, {2, 1, 0}};
+        for (int[] order : orders) {
+            CoinSorter z = Check.machine(types[order[0]] + types[order[1]] + types[order[2]] + "margin 80;");
+            int first = order[0] == 1 ? 0 : order[1] == 1 ? 1 : 2;
+            Check.due("the second lowest is 80 above", z.classify(2001, 1000), first);
+            z.setMargin(81);
+            Check.due("80 is less than 81", z.classify(2001, 1000), UNSURE);
+        }
     }
 
     private static void equalScores() {
@@ -1068,8 +1078,8 @@ final class MachineLimits {
 
     private static void insertAlloys() {
         CoinSorter x = Check.machine("type 1 2000 1 0 1;type 1 2000 1 9999 1;bin 0 9;bin 1 9;");
-        Check.due("the least", x.insert(2000, 0), 1);
-        Check.due("the greatest", x.insert(2000, 9999), 2);
+        Check.due("the least", x.insert(1999, 0), 1);
+        Check.due("the greatest", x.insert(2001, 9999), 2);
         Check.due("below", x.insert(2000, -1), INVALID);
         Check.due("above", x.insert(2000, 10000), INVALID);
         Check.due("the least is kept", x.step(), 0);

@@ -79,9 +79,7 @@ final class Machines {
         CoinSorter x = idle();
         for (int bag = x.bagCount(); bag < 30; bag++) {
             x.insert(2000, 1000);
-            x.step();
-            x.changeBag(1);
-            x.changeBag(2);
+            x.changeBag(x.step());
         }
         return x;
     }

@@ -147,7 +147,11 @@ public final class PayoutTest {
         payout(x, 4991, 1, 9, 0);
     }
 
-    /** 101 to the power of 8 ways to pay: the weights of the plan come near the end of their range. */
+    /**
+     * 101 to the power of 8 ways to pay: the weights of the plan come near the end of their
+     * range. Filling the bins takes more calls than an object is promised to answer; the
+     * payout is right all the same.
+     */
     private static void fullBins() {
         int[] values = {7, 7, 7, 7, 7, 7, 7, 7};
         int[] counts = {100, 100, 100, 100, 100, 100, 100, 100};

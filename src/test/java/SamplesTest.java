@@ -179,19 +179,30 @@ public final class SamplesTest {
 
     /** Against the plain search over all margins. */
     private static void bestMarginOfAll() {
+        for (int count = 1; count <= 40; count++) {
+            int best = 0;
+            int least = Integer.MAX_VALUE;
+            CoinSorter x = sampled(count);
+            for (int margin = 0; margin <= 2000; margin++) {
+                // an object is used for at most 512 calls
+                x = margin % 400 == 399 ? sampled(count) : x;
+                int cost = x.sampleCost(margin);
+                best = cost < least ? margin : best;
+                least = Math.min(least, cost);
+            }
+            Check.due("bestMargin of " + count, sampled(count).bestMargin(), best);
+        }
+    }
+
+    /** So many samples near three types, the same at each call. */
+    private static CoinSorter sampled(int count) {
         CoinSorter x = Check.machine(CONFIG + "type 3 2050 90 1000 100;");
         int seed = 7;
-        for (int i = 0; i < 40; i++) {
+        for (int i = 0; i < count; i++) {
             seed = (seed * 1103515 + 12345) & 0xfffffff;
             x.addSample(1900 + seed / 8 % 300, 900 + seed / 4096 % 200, seed / 65536 % 4 - 1);
-            int best = 0;
-            int[] costs = new int[2001];
-            for (int margin = 0; margin <= 2000; margin++) {
-                costs[margin] = x.sampleCost(margin);
-                best = costs[margin] < costs[best] ? margin : best;
-            }
-            Check.due("bestMargin of " + (i + 1), x.bestMargin(), best);
         }
+        return x;
     }
 
     private static void offsets() {

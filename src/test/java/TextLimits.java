@@ -98,6 +98,8 @@ final class TextLimits {
     }
 
     private static void parse() {
+        Sentences.test(3, "Parses the first length bytes of the input buffer as a configuration and replaces the current one by it.",
+            TextLimits::replaces);
         Sentences.test(3, "number of bytes, 0 to the length of the buffer;", TextLimits::lengths);
         Sentences.test(3, "0 gives the configuration without types and bins", TextLimits::lengthZero);
         Sentences.test(3, "Returns the number of types;", TextLimits::numberOfTypes);
@@ -207,8 +209,19 @@ final class TextLimits {
             error("gate" + other + " 2000;", 4, SYNTAX);
             error(other + "gate 2000;", 0, SYNTAX);
         }
+        for (String[] statement : STATEMENTS) {
+            String text = begun(statement, statement.length - 1) + ";";
+            int start = text.indexOf(statement[0]);
+            for (int i = 0; i < statement[0].length(); i++) {
+                StringBuilder other = new StringBuilder(text);
+                other.setCharAt(start + i, 'z');
+                error(other.toString(), start, SYNTAX);
+                other.setCharAt(start + i, (char) (text.charAt(start + i) + 1));
+                error(other.toString(), start, SYNTAX);
+            }
+        }
         error("margi 5;", 0, SYNTAX);
-        error("margin" + "s 5;", 0, SYNTAX);
+        error("margins 5;", 0, SYNTAX);
         error("gateloop 5;", 0, SYNTAX);
     }
 
@@ -690,6 +703,32 @@ final class TextLimits {
     }
 
     // ---- promise 3
+
+    /** Three texts, one after the other: nothing of the first two is left. */
+    private static void replaces() {
+        String large = "type 9 1100 9 100 9;".repeat(8) + "fake 1100 9 100 9;".repeat(4) + "bin 7 9;".repeat(8)
+            + "gate 1000;loop 0;margin 0;";
+        String small = "type 3 1500 20 1000 40;fake 3000 30 1000 50;bin 0 1;";
+        Twins.same("two large texts and a small one", () -> Check.machine(small), () -> loaded(large, large, small));
+        Twins.same("a small, a large and a small one", () -> Check.machine(small), () -> loaded(small, large, small));
+        Twins.same("an error between", () -> Check.machine(small), () -> loaded(large, large + "!", small));
+        CoinSorter x = loaded(large, large, small);
+        Check.due("score", x.score(0, 1510, 1010), 500 + 250);
+        Check.due("bagSize", x.bagSize(0), 1);
+        Check.insert(x, 9, 1500, 1000);
+        Check.due("a bin of one and a loop of five", x.run(100), 6);
+        CoinSorter y = loaded(large, large, small);
+        y.insert(4000, 0);
+        Check.due("the widest gate", y.step(), CoinSorter.UNKNOWN);
+    }
+
+    private static CoinSorter loaded(String... texts) {
+        CoinSorter x = new CoinSorter();
+        for (String text : texts) {
+            Check.load(x, text);
+        }
+        return x;
+    }
 
     private static void lengths() {
         for (int length = 0; length <= 40; length++) {
