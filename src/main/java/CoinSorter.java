@@ -1136,6 +1136,8 @@ public final class CoinSorter {
      */
     private static final class Payout {
         private static final long NO_WEIGHT = -1;
+        /** Ten packets make up to 1023 coins, and the bins hold no more than 800. */
+        private static final int PACKETS = 10;
 
         private final int[] stock;
         private final long[] places;
@@ -1187,11 +1189,11 @@ public final class CoinSorter {
         /** Packets of 1, 2, 4 .. coins and the rest make every number of coins, in few rounds. */
         private void weighType(int count, int value, long weight, int reach) {
             int left = count;
-            for (int packet = 1; packet <= left; packet *= 2) {
+            for (int round = 0; round < PACKETS; round++) {
+                int packet = Math.min(1 << round, left);
                 weighPacket(packet * value, packet * weight, reach);
                 left -= packet;
             }
-            weighPacket(left * value, left * weight, reach);
         }
 
         /** Downwards, so that the packet is used once at most. */

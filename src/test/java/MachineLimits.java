@@ -33,7 +33,7 @@ final class MachineLimits {
 
     private static void measurements() {
         says("A coin has a measured diameter, 1 to 4000, and a measured alloy, 0 to 9999.", MachineLimits::coins);
-        says("both 0 at first.", MachineLimits::offsetsAtFirst);
+        says("The machine has a diameter offset and an alloy offset, both 0 at first.", MachineLimits::offsetsAtFirst);
         says("A corrected measurement is the measurement plus the offset; it may be negative.", MachineLimits::negative);
     }
 
@@ -52,7 +52,7 @@ final class MachineLimits {
     }
 
     private static void bins() {
-        says("a hopper (a queue of at most 60 coins),", MachineLimits::hopperOf60);
+        says("It has a hopper (a queue of at most 60 coins),", MachineLimits::hopperOf60);
         says("a loop (a queue of at most capacity coins, whose types are known),", MachineLimits::loopOfCapacity);
         says("in a bag that holds at most size coins; a bin is full if its bag holds size coins.", MachineLimits::fullBin);
         says("The bin for a type is, among the bins of this type that are not full, the one that needs the fewest coins to be full;",
@@ -62,7 +62,7 @@ final class MachineLimits {
 
     private static void steps() {
         says("If the machine is jammed, no step is possible.", MachineLimits::noStepIfJammed);
-        says("if the loop holds a coin for whose type there is a bin (that is not full), the oldest such coin moves from the loop"
+        says("Otherwise, if the loop holds a coin for whose type there is a bin (that is not full), the oldest such coin moves from the loop"
             + " to the bin for its type. The outcome is the number of the bin.", MachineLimits::loopFirst);
         says("Otherwise, if the hopper is empty, no step is possible.", MachineLimits::emptyHopper);
         says("If not, the oldest coin of the hopper is next.", MachineLimits::oldestIsNext);
@@ -539,6 +539,15 @@ final class MachineLimits {
         Check.due("loopType(0)", x.loopType(0), 1);
         Check.due("the end of the loop", x.loopType(1), 0);
         Check.due("loopType(2)", x.loopType(2), INVALID);
+        CoinSorter y = Check.machine(TYPES + "bin 0 1;");
+        y.insert(1500, 1000);
+        for (int[] coin : new int[][] {{1450, 900}, {1450, 1100}, {1550, 900}, {1550, 1100}}) {
+            y.insert(coin[0], coin[1]);
+        }
+        y.run(5);
+        for (int position = 0; position < 4; position++) {
+            Check.due("a coin at both tolerances", y.loopType(position), 0);
+        }
     }
 
     private static void staysInTheHopper() {

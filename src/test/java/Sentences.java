@@ -6,19 +6,21 @@ import java.util.regex.Pattern;
 
 /**
  * The sentences of the document, each with a test of its own. A test is told with
- * the words that it tests; so a sentence that names a boundary case, and that no
- * test quotes, is found.
+ * the words that it tests; so words that no test quotes are found.
  */
 final class Sentences {
-    /** The section "Description"; the others are numbered as the promises are. */
+    /** The section "Description"; the promises are numbered as in the document. */
     static final int DESCRIPTION = 0;
     private static final int PROMISES = 48;
-    private static final Pattern BOUNDARY = Pattern.compile("INVALID|ABSENT|FULL|Throws|\\bfalse\\b|\\bempt(y|ies)\\b|\\bfull\\b"
-        + "|at most|at least|out of (its )?range|no such|checked|nothing|\\bstays?\\b|of equals?\\b|lowest|latest|oldest"
-        + "|too (many|early)|once|\\b\\d+ to |\\b0 or 1\\b|if there (is|are|was)|not possible|cannot|may be|rounded|without");
+    /** The section "What it is". */
+    static final int WHAT_IT_IS = PROMISES + 1;
+    /** What says nothing by itself: headings, signatures (FaceTest has them), names of groups and of arguments. */
+    private static final Pattern FRAME = Pattern.compile(
+        "^##.*$|^`.*`$|^---- .*$|^- (`(\\w+)`:( the \\2$)?)?|^[A-Z]{2,}( [A-Z]+)*\\.|^The constants:$", Pattern.MULTILINE);
+    private static final Pattern WORDS = Pattern.compile("[^\u0000]*[A-Za-z0-9][^\u0000]*");
 
-    private static final String[] TEXTS = new String[PROMISES + 1];
-    private static final boolean[][] QUOTED = new boolean[PROMISES + 1][];
+    private static final String[] TEXTS = new String[PROMISES + 2];
+    private static final boolean[][] QUOTED = new boolean[PROMISES + 2][];
 
     private Sentences() {
     }
@@ -26,6 +28,7 @@ final class Sentences {
     static void read(Path document) throws IOException {
         String text = Files.readString(document);
         keep(DESCRIPTION, text.substring(text.indexOf("## Description"), text.indexOf("## Promise 1:")));
+        keep(WHAT_IT_IS, text.substring(text.indexOf("## What it is"), text.indexOf("## The public face")));
         for (int promise = 1; promise <= PROMISES; promise++) {
             int start = text.indexOf("## Promise " + promise + ":");
             keep(promise, text.substring(start, text.indexOf("\n## ", start)));
@@ -33,7 +36,7 @@ final class Sentences {
     }
 
     private static void keep(int section, String text) {
-        TEXTS[section] = plain(text);
+        TEXTS[section] = plain(FRAME.matcher(text).replaceAll(""));
         QUOTED[section] = new boolean[TEXTS[section].length()];
     }
 
@@ -57,15 +60,18 @@ final class Sentences {
         }
     }
 
-    /** No word that tells a boundary case stands outside the quotes. */
+    /** No word of the document stands outside the quotes. */
     static void allAreQuoted() {
-        for (int section = 0; section <= PROMISES; section++) {
-            Matcher matcher = BOUNDARY.matcher(TEXTS[section]);
-            while (matcher.find()) {
-                int start = matcher.start();
-                String near = TEXTS[section].substring(Math.max(0, start - 40), Math.min(TEXTS[section].length(), start + 60));
-                Check.due("section " + section + ", a test of '.." + near + "..'", QUOTED[section][start], true);
+        for (int section = 0; section < TEXTS.length; section++) {
+            StringBuilder rest = new StringBuilder(TEXTS[section]);
+            for (int i = 0; i < rest.length(); i++) {
+                if (QUOTED[section][i]) {
+                    rest.setCharAt(i, '\0');
+                }
             }
+            Matcher matcher = WORDS.matcher(rest);
+            boolean found = matcher.find();
+            Check.due("section " + section + ", no test of '" + (found ? matcher.group().strip() : "") + "'", found, false);
         }
     }
 }

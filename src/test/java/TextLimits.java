@@ -33,7 +33,7 @@ final class TextLimits {
         says("The input buffer holds at most 800 bytes.", TextLimits::bufferOf800);
         says("Bytes 32 (space) and 10 (line feed) are white space; they may stand between tokens and are otherwise ignored.",
             TextLimits::whiteSpace);
-        says("a word (a maximal run of lower-case letters a to z, 1 to 6 letters long)", TextLimits::words);
+        says("A token is a word (a maximal run of lower-case letters a to z, 1 to 6 letters long),", TextLimits::words);
         says("a number (a maximal run of digits, 1 to 4 digits long)", TextLimits::numbers);
         says("or a semicolon.", TextLimits::semicolons);
         says("Any other byte,", TextLimits::everyByte);
@@ -54,7 +54,7 @@ final class TextLimits {
     }
 
     private static void ranges() {
-        says("value 1 to 500;", TextLimits::values);
+        says("Ranges: value 1 to 500;", TextLimits::values);
         says("diameter 1000 to 4000;", TextLimits::diameters);
         says("diameterTolerance 1 to 200;", TextLimits::diameterTolerances);
         says("alloy 0 to 9999;", TextLimits::alloys);
@@ -70,7 +70,7 @@ final class TextLimits {
     }
 
     private static void errors() {
-        says("The parser reports the error with the lowest byte offset;", TextLimits::lowestOffset);
+        says("Syntax errors. The parser reports the error with the lowest byte offset;", TextLimits::lowestOffset);
         says("of several kinds at one offset the lowest:", TextLimits::lowestKind);
         says("1 (syntax): an illegal token, or a token that cannot continue a configuration;", TextLimits::cannotContinue);
         says("if the text ends too early, the offset is the length of the text.", TextLimits::endsTooEarly);
