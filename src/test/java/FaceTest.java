@@ -20,9 +20,11 @@ public final class FaceTest {
     public static void main(String[] args) throws IOException {
         constants();
         face();
+        signatures();
         privateNames();
         fields();
         words();
+        lengths();
         Check.end();
     }
 
@@ -58,6 +60,29 @@ public final class FaceTest {
         Constructor<?>[] constructors = CoinSorter.class.getDeclaredConstructors();
         Check.due("one public constructor", constructors.length == 1 && Modifier.isPublic(constructors[0].getModifiers()), true);
         Check.due("public and final", CoinSorter.class.getModifiers(), Modifier.PUBLIC | Modifier.FINAL);
+    }
+
+    /** Each line of the face stands in the program as in the document: the names of the arguments, and what is thrown. */
+    private static void signatures() throws IOException {
+        String text = Files.readString(DOCUMENT);
+        String program = Files.readString(PROGRAM);
+        String face = text.substring(text.indexOf("public final class CoinSorter {"), text.indexOf("## Description"));
+        Matcher line = Pattern.compile("    (public [^;]*);").matcher(face);
+        int lines = 0;
+        while (line.find()) {
+            boolean says = program.contains("\n    " + line.group(1) + " {\n") || program.contains("\n    " + line.group(1) + ";\n");
+            Check.due("the program says '" + line.group(1) + "'", says, true);
+            lines++;
+        }
+        Check.due("three lines with one constant, one with five, and 48 more", lines, 52);
+        Matcher promise = Pattern.compile("## Promise (\\d+): .*\n\n`(.*)`\n").matcher(text);
+        int promises = 0;
+        while (promise.find()) {
+            promises++;
+            Check.due("the number of promise " + promises, Integer.parseInt(promise.group(1)), promises);
+            Check.due("the face says '" + promise.group(2) + "'", face.contains("    public " + promise.group(2) + ";\n"), true);
+        }
+        Check.due("promises", promises, 48);
     }
 
     private static void privateNames() {
@@ -118,5 +143,17 @@ public final class FaceTest {
         while (imported.find()) {
             Check.due("import of " + imported.group(1), imported.group(1).equals("java.util.Arrays"), true);
         }
+    }
+
+    /** A method ends at the first line that closes with its own indentation. */
+    private static void lengths() throws IOException {
+        Matcher method = Pattern.compile("(?ms)^( +)(?:private|public) [^;={]*\\) [^;={]*\\{$.*?^\\1\\}$").matcher(Files.readString(PROGRAM));
+        int methods = 0;
+        while (method.find()) {
+            methods++;
+            String head = method.group().strip().lines().findFirst().orElse("");
+            Check.due(head + " has at most sixty lines", method.group().lines().count() <= 60, true);
+        }
+        Check.due("more methods than the face has: " + methods, methods > 48, true);
     }
 }
