@@ -166,6 +166,15 @@ public final class PayoutTest {
         payout(y, 3600, 100, 100, 100, 100, 100, 100, 100, 100);
         payout(y, 3599, 99, 100, 100, 100, 100, 100, 100, 100);
         payout(y, 808, 1, 0, 0, 0, 0, 0, 1, 100);
+        CoinSorter z = Check.machine("type 1 1000 9 5 9;" + "bin 0 100;".repeat(8));
+        for (int bin = 0; bin < 16; bin++) {
+            Check.insert(z, 50, 1000, 5);
+            z.run(100);
+        }
+        payout(z, 511, 511);
+        payout(z, 512, 512);
+        payout(z, 800, 800);
+        absent(z, 801);
     }
 
     private static void againstAPlainSearch() {
